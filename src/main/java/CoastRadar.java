@@ -28,7 +28,7 @@ public final class CoastRadar {
     private static final int SUB_BITS = 4;
     private static final int SUB = 1 << SUB_BITS;
     private static final int SPEED_LIMIT = 16384;
-    private static final double SPEED_UNIT_SQUARE = 65536.0;
+    private static final int SPEED_UNIT_SQUARE = 65536;
 
     private static final int NEW = 0;
     private static final int FIRM = 1;
@@ -202,7 +202,7 @@ public final class CoastRadar {
         if (found == null) {
             throw new IndexOutOfBoundsException("there is no track with this name");
         }
-        return (double) square(found.speedX, found.speedY) / SPEED_UNIT_SQUARE;
+        return (double) square(found.speedX, found.speedY) / (double) SPEED_UNIT_SQUARE;
     }
 
     /** Returns the least square of two tracks from now on, in sixteenths. */

@@ -28,6 +28,59 @@ final class Checks {
         equal(what, got ? 1 : 0, 0);
     }
 
+    static void text(String what, String got, String due) {
+        if (!got.equals(due)) {
+            wrong++;
+            System.out.println(what + ": got " + got + ", due is " + due);
+        }
+    }
+
+    /** All events that are kept, each as its sweep, kind, name and other number. */
+    static String events(CoastRadar radar) {
+        StringBuilder all = new StringBuilder();
+        for (int i = 0; i < Math.min(radar.count(9), 120); i++) {
+            all.append(i == 0 ? "" : " ");
+            for (int what = 0; what <= 3; what++) {
+                all.append(what == 0 ? "" : ":").append(radar.event(i, what));
+            }
+        }
+        return all.toString();
+    }
+
+    /** A radar with one station that sees far, tuned so that a track goes where its blip is. */
+    static CoastRadar radar(int gate, int b) {
+        CoastRadar radar = new CoastRadar();
+        radar.addStation(0, 0, 20000);
+        radar.tune(0, gate, 16, b);
+        return radar;
+    }
+
+    /** Reports blips at places x, y, x, y .. and does a sweep of some ticks. */
+    static int sweep(CoastRadar radar, int dt, int... places) {
+        for (int i = 0; i + 1 < places.length; i += 2) {
+            equal("report(0, " + places[i] + ", " + places[i + 1] + ", 99)", radar.report(0, places[i], places[i + 1], 99), 0);
+        }
+        return radar.sweep(dt);
+    }
+
+    /** The names of all tracks, in their order. */
+    static String names(CoastRadar radar) {
+        StringBuilder all = new StringBuilder();
+        for (int i = 0; i < radar.count(4); i++) {
+            all.append(i == 0 ? "" : " ").append(radar.name(i));
+        }
+        return all.toString();
+    }
+
+    /** The names of the tracks of all blips, in their order. */
+    static String joins(CoastRadar radar, int blips) {
+        StringBuilder all = new StringBuilder();
+        for (int i = 0; i < blips; i++) {
+            all.append(i == 0 ? "" : " ").append(radar.blip(i, 4));
+        }
+        return all.toString();
+    }
+
     /** The call throws just this exception, and leaves the radar as it was. */
     static void refuses(CoastRadar radar, String what, String exception, Call call) {
         long before = radar.digest();
