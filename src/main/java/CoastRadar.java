@@ -706,12 +706,14 @@ public final class CoastRadar {
         /** The one that is expected nearest to a place, at most a square away; of several the smallest name; or -1. */
         int findNearest(int px, int py, int tickNow, long squareLimit) {
             int found = -1;
-            long least = squareLimit;
+            long least = 0;
             for (int i = 0; i < size; i++) {
                 int ticks = tickNow - tick[i];
                 long away = square(x[i] + way(speedX[i], ticks) - px, y[i] + way(speedY[i], ticks) - py);
-                boolean isFirst = found < 0 && away <= least;
-                if (isFirst || away < least || found >= 0 && away == least && name[i] < name[found]) {
+                if (away > squareLimit) {
+                    continue;
+                }
+                if (found < 0 || away < least || away == least && name[i] < name[found]) {
                     found = i;
                     least = away;
                 }

@@ -88,6 +88,10 @@ final class CoastTest {
         Checks.isFalse("out of its range, aslant (-60, -81)", r.sees(0, -50, -101));
         Checks.isTrue("far", r.sees(1, 9999, -9999));
         Checks.isFalse("the farthest corner", r.sees(1, 9999, 9999));
+        CoastRadar near = new CoastRadar();
+        near.addStation(0, 0, 1);
+        Checks.isTrue("the place beside, with the range 1", near.sees(0, 0, -1));
+        Checks.isFalse("the place beside, aslant, with the range 1", near.sees(0, 1, 1));
         r.addPlace(true, 20, -30, 50, -10);
         Checks.isTrue("an area hides nothing", r.sees(0, 100, -20));
     }

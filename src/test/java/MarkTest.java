@@ -8,6 +8,7 @@ final class MarkTest {
         keepsBlips();
         keepsTracks();
         keepsLostOnes();
+        keepsWhereTheyWereLost();
         keepsEvents();
         staysKept();
         digest();
@@ -151,6 +152,42 @@ final class MarkTest {
         Checks.equal("too long ago", r.count(6), 0);
         r.restore();
         Checks.equal("it was not then", r.count(6), 1);
+    }
+
+    /** Behind the mark another one is lost in the place of the first one, elsewhere and with another speed. */
+    private static void keepsWhereTheyWereLost() {
+        CoastRadar r = Checks.radar(12, 16);
+        for (int i = 0; i < 3; i++) {
+            Checks.sweep(r, 1, 10 * i, -5 * i);
+        }
+        for (int i = 0; i < 5; i++) {
+            r.sweep(1);
+        }
+        Checks.equal("one is lost", r.count(6), 1);
+        r.mark();
+        for (int i = 0; i < 13; i++) {
+            r.sweep(1);
+        }
+        for (int i = 0; i < 3; i++) {
+            Checks.sweep(r, 1, 3000 - 8 * i, 3000 + 4 * i);
+        }
+        for (int i = 0; i < 5; i++) {
+            r.sweep(1);
+        }
+        Checks.equal("the other one is lost", r.count(6), 1);
+        r.restore();
+        // 0 goes on by 10, -5 a tick: from 20, -10 in sweep 2 to 100, -50 in sweep 10.
+        r.tune(0, 10, 16, 0);
+        for (int i = 0; i < 3; i++) {
+            Checks.sweep(r, 1, 124, -18);
+        }
+        Checks.text("24, 32 away from where it is expected: known again", Checks.names(r), "0");
+        r.restore();
+        r.tune(0, 10, 16, 0);
+        for (int i = 0; i < 3; i++) {
+            Checks.sweep(r, 1, 125, -18);
+        }
+        Checks.text("25, 32 away: not known", Checks.names(r), "1");
     }
 
     private static void keepsEvents() {

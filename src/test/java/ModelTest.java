@@ -139,6 +139,8 @@ final class ModelTest {
             if (random(0, 2) == 0) query();
             if (random(0, 40) == 0) wildCall();
             if (random(0, 40) == 0) addArea();
+            if (random(0, 12) == 0) mark();
+            if (random(0, 12) == 0) restore();
         }
     }
 
