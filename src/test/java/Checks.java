@@ -47,12 +47,79 @@ final class Checks {
         return all.toString();
     }
 
+    /** The events of one sweep that are kept, each as its kind, name and other number. */
+    static String eventsOf(CoastRadar radar, int sweep) {
+        StringBuilder all = new StringBuilder();
+        for (int i = 0; i < Math.min(radar.count(9), 120); i++) {
+            if (radar.event(i, 0) == sweep) {
+                all.append(all.length() == 0 ? "" : " ");
+                all.append(radar.event(i, 1)).append(":").append(radar.event(i, 2)).append(":").append(radar.event(i, 3));
+            }
+        }
+        return all.toString();
+    }
+
+    /** A radar with some stations that see far, tuned as a new one is. */
+    static CoastRadar stations(int number) {
+        CoastRadar radar = new CoastRadar();
+        for (int i = 0; i < number; i++) {
+            equal("station", radar.addStation(0, 0, 20000), i);
+        }
+        return radar;
+    }
+
+    /** Some sweeps without blips. */
+    static void empty(CoastRadar radar, int sweeps, int dt) {
+        for (int i = 0; i < sweeps; i++) {
+            radar.sweep(dt);
+        }
+    }
+
     /** A radar with one station that sees far, tuned so that a track goes where its blip is. */
     static CoastRadar radar(int gate, int b) {
         CoastRadar radar = new CoastRadar();
         radar.addStation(0, 0, 20000);
         radar.tune(0, gate, 16, b);
         return radar;
+    }
+
+    /**
+     * A radar with new tracks, joined twice: each one is told as x, y of its place, and its speed in 256ths, for x and y.
+     * The gate is 2000; a track goes where its blip is.
+     */
+    static CoastRadar moving(int... rows) {
+        CoastRadar radar = radar(2000, 1);
+        int[] before = places(rows);
+        for (int i = 0; i < before.length; i++) {
+            before[i] -= rows[i / 2 * 4 + 2 + i % 2];
+        }
+        sweep(radar, 1, before);
+        sweep(radar, 16, places(rows));
+        areSetUp(radar, rows);
+        return radar;
+    }
+
+    /** The same tracks, firm; from now on they keep their speeds. */
+    static CoastRadar firm(int... rows) {
+        CoastRadar radar = moving(rows);
+        radar.tune(0, 2000, 16, 0);
+        sweep(radar, 1, places(rows));
+        areSetUp(radar, rows);
+        return radar;
+    }
+
+    private static int[] places(int... rows) {
+        int[] places = new int[rows.length / 2];
+        for (int i = 0; i < places.length; i++) {
+            places[i] = rows[i / 2 * 4 + i % 2];
+        }
+        return places;
+    }
+
+    private static void areSetUp(CoastRadar radar, int... rows) {
+        for (int i = 0; i < rows.length; i++) {
+            equal("set up, track " + i / 4 + ", " + i % 4, radar.track(i / 4, i % 4), i % 4 < 2 ? 16 * rows[i] : rows[i]);
+        }
     }
 
     /** Reports blips at places x, y, x, y .. and does a sweep of some ticks. */

@@ -1,4 +1,4 @@
-/** Promises 19 to 21: mark, restore and digest. */
+/** Promises 19 and 20: mark and restore. The digest of promise 21 is tested in EdgeMarkTest. */
 final class MarkTest {
     public static void main(String[] args) {
         restoreWrong();
@@ -11,7 +11,6 @@ final class MarkTest {
         keepsWhereTheyWereLost();
         keepsEvents();
         staysKept();
-        digest();
         Checks.end("MarkTest");
     }
 
@@ -198,13 +197,13 @@ final class MarkTest {
             }
             r.sweep(1);
         }
-        String before = Checks.events(r);
+        long before = r.digest();
         r.mark();
         Checks.sweep(r, 1, 0, 9000, 50, 9000, 100, 9000);
         Checks.equal("events", r.count(9), 133);
         r.restore();
         Checks.equal("events then", r.count(9), 130);
-        Checks.text("all that were kept", Checks.events(r), before);
+        Checks.equal("all that were kept", r.digest(), before);
     }
 
     private static void staysKept() {
@@ -220,54 +219,5 @@ final class MarkTest {
             Checks.equal("digest()", r.digest(), due);
             Checks.equal("level", r.level(5, 5), 3);
         }
-    }
-
-    private static void digest() {
-        CoastRadar r = Checks.radar(100, 16);
-        Checks.equal("digest()", r.digest(), computed(r));
-        r.addPlace(true, 0, 0, 500, 500);
-        r.addPlace(true, 10, 0, 500, 500);
-        for (int i = 0; i < 8; i++) {
-            Checks.sweep(r, i + 1, 20 * i, 30 * i, 400 - 7 * i, 300);
-            Checks.equal("digest()", r.digest(), computed(r));
-            r.report(0, 3, 5, 98);
-            Checks.equal("digest() with a blip that waits", r.digest(), computed(r));
-        }
-        Checks.equal("twice the same", r.digest(), r.digest());
-    }
-
-    private static long computed(CoastRadar r) {
-        java.util.List<Integer> row = new java.util.ArrayList<>();
-        for (int what = 0; what <= 10; what++) {
-            row.add(r.count(what));
-        }
-        for (int i = 0; i < r.count(4); i++) {
-            row.add(r.name(i));
-            for (int what = 0; what <= 7; what++) {
-                row.add(r.track(r.name(i), what));
-            }
-        }
-        for (int i = 0; Checks.thrown(told(r, i)).equals("nothing"); i++) {
-            for (int what = 0; what <= 4; what++) {
-                row.add(r.blip(i, what));
-            }
-        }
-        for (int i = 0; i < Math.min(120, r.count(9)); i++) {
-            for (int what = 0; what <= 3; what++) {
-                row.add(r.event(i, what));
-            }
-        }
-        for (int i = 0; i < r.count(2); i++) {
-            row.add(r.inside(i));
-        }
-        long d = 431;
-        for (int x : row) {
-            d = d * 31 + x;
-        }
-        return d;
-    }
-
-    private static Checks.Call told(CoastRadar r, int blip) {
-        return () -> r.blip(blip, 0);
     }
 }
