@@ -30,6 +30,7 @@ final class EdgeCoastTest {
         landBehindThePlace();
         placeOfALevel();
         fieldsAreCutDownwards();
+        eachFieldHasItsOwnLevel();
         atFirstNoLevel();
         blurLimits();
         gateLimits();
@@ -349,6 +350,18 @@ final class EdgeCoastTest {
         Checks.isTrue("land behind the place", land(0, 0, 50, 40, 60, 60).sees(0, 49, 49));
         Checks.isTrue("land behind the station", land(0, 0, 50, 40, 60, 60).sees(0, -49, -49));
         Checks.isFalse("the line ends in land", land(0, 0, 50, 40, 60, 60).sees(0, 51, 51));
+        int[][] away = {{1, 1}, {-1, 1}, {1, -1}, {-1, -1}};
+        for (int[] a : away) {
+            // Land from 50 to 60, or from -60 to -50, by x and by y; the line goes on to it, and beyond it.
+            CoastRadar r = land(0, 0, a[0] > 0 ? 50 : -60, a[1] > 0 ? 50 : -60, a[0] > 0 ? 60 : -50, a[1] > 0 ? 60 : -50);
+            String where = ", land at " + 50 * a[0] + ", " + 50 * a[1];
+            Checks.isTrue("ahead of land" + where, r.sees(0, 49 * a[0], 49 * a[1]));
+            Checks.isTrue("at its corner" + where, r.sees(0, 50 * a[0], 50 * a[1]));
+            Checks.isFalse("one place in it" + where, r.sees(0, 51 * a[0], 51 * a[1]));
+            Checks.isTrue("the other way, x" + where, r.sees(0, -40 * a[0], 40 * a[1]));
+            Checks.isTrue("the other way, y" + where, r.sees(0, 40 * a[0], -40 * a[1]));
+            Checks.isTrue("the other way" + where, r.sees(0, -40 * a[0], -40 * a[1]));
+        }
         Checks.isTrue("land in both ranges, aside of the line", land(0, 0, 50, 0, 60, 10).sees(0, 60, 60));
         Checks.isTrue("land in both ranges, aside on the other hand", land(0, 0, 0, 50, 10, 60).sees(0, 60, 60));
     }
@@ -377,6 +390,23 @@ final class EdgeCoastTest {
                 Checks.equal(field + "its other corner", r.level(x[1], y[0]), 3);
                 noneBeside(r, field, x, y);
             }
+        }
+    }
+
+    /** Terms: "Each field of 1000 by 1000": no two of them share a level. */
+    private static void eachFieldHasItsOwnLevel() {
+        int[][] places = {{0, 0}, {-9999, 9999}, {9999, 9999}, {-9999, -9999}, {4500, -3500}};
+        for (int[] p : places) {
+            CoastRadar r = Checks.radar(1, 0);
+            Checks.sweep(r, 1, p[0], p[1]);
+            int sum = 0;
+            for (int column = -10; column <= 9; column++) {
+                for (int row = -10; row <= 9; row++) {
+                    sum += r.level(1000 * column + 1, 1000 * row + 1);
+                }
+            }
+            Checks.equal("the levels of all fields, a blip at " + p[0] + ", " + p[1], sum, 3);
+            Checks.equal("the level of its own", r.level(p[0], p[1]), 3);
         }
     }
 

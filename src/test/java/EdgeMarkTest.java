@@ -22,6 +22,7 @@ final class EdgeMarkTest {
         tracksAreKept();
         areasOfTracksAreKept();
         lostOnesAreKept();
+        lostOnesOfThenAreKept();
         eventsAreKept();
         namesAreKept();
         fiveHundredSweepsAreKept();
@@ -374,6 +375,41 @@ final class EdgeMarkTest {
         }
     }
 
+    /** Promise 19, the same, when another one has been lost in the place of it: elsewhere, later, and with another speed. */
+    private static void lostOnesOfThenAreKept() {
+        for (int more = 0; more <= 1; more++) {
+            CoastRadar r = Checks.firm(0, 0, 16, -32);
+            Checks.empty(r, 5, 16);
+            r.tune(0, 10, 16, 1);
+            r.mark();
+            Checks.empty(r, 13, 16);
+            Checks.equal("set up: none is lost", r.count(6), 0);
+            for (int i = 0; i < 3; i++) {
+                Checks.sweep(r, 16, 3000 + 3 * i, 3000 + 5 * i);
+            }
+            Checks.empty(r, 5, 16);
+            Checks.equal("set up: another one is lost", r.count(6), 1);
+            r.restore();
+            // It was lost in sweep 7 at 5, -10, and goes 1, -2 in each sweep: 8, -16 in sweep 10.
+            r.tune(0, 1, 16, 0);
+            for (int i = 0; i < 3; i++) {
+                Checks.sweep(r, 16, 8 - 4 - more, -16);
+            }
+            Checks.equal("promise 20: 4 gates and " + more + " from where it is expected", r.name(0), more);
+            r.restore();
+            r.tune(0, 1, 16, 0);
+            for (int i = 0; i < 3; i++) {
+                Checks.sweep(r, 16, 8, -16 + 4 + more);
+            }
+            Checks.equal("promise 20: the same by y", r.name(0), more);
+            r.restore();
+            Checks.empty(r, 11, 1);
+            Checks.equal("promise 20: ahead of sweep 19", r.count(6), 1);
+            r.sweep(1);
+            Checks.equal("promise 20: ahead of sweep 20", r.count(6), 0);
+        }
+    }
+
     /** Promise 19: "events and what is counted": when more than 120 were noted. */
     private static void eventsAreKept() {
         CoastRadar r = Checks.radar(1, 0);
@@ -384,19 +420,20 @@ final class EdgeMarkTest {
             Checks.empty(r, 2, 1);
         }
         Checks.equal("set up: events", r.count(9), 125);
+        long before = r.digest();
         r.mark();
-        for (int i = 0; i < 5; i++) {
-            r.report(0, 500, 1000 + 500 * i, 99);
+        r.addPlace(true, -5, -5, 5, 5);
+        for (int i = 0; i < 3; i++) {
+            Checks.sweep(r, 1, 0, -3, 0, 3);
         }
-        r.sweep(1);
-        Checks.equal("set up: more events", r.count(9), 130);
-        Checks.equal("set up: the oldest one", r.event(0, 2), 10);
+        Checks.text("set up: events of other kinds take the place of the oldest ones", Checks.eventsOf(r, 28), "1:125:-1 1:126:-1 7:125:0 7:126:0");
         r.restore();
         Checks.equal("promise 20: events", r.count(9), 125);
         for (int i = 0; i < 120; i += 17) {
             Checks.equal("promise 20: event " + i, r.event(i, 2), 5 + i);
         }
         Checks.equal("promise 20: the latest one", r.event(119, 2), 124);
+        Checks.equal("promise 20: all of them, by the digest", r.digest(), before);
     }
 
     /** Promise 19: "what is counted": names that were given behind the mark are given again. */

@@ -12,6 +12,9 @@ final class EdgeMeetingTest {
         smallestNameOfSeveral();
         ascendingOrderOfNames();
         lostOneIsForgotten();
+        placeOfTheTrackNow();
+        eachLostOneByItself();
+        laterOnesStay();
         ownNameIsNotGivenAgain();
         newOutOfNewOnesAlone();
         endedOnesAreNotKnown();
@@ -156,6 +159,13 @@ final class EdgeMeetingTest {
                 Checks.equal("step 6: " + row[1] * (5 + row[0]) + " sixteenths on, found at " + x + ", " + y, r.name(0), 1 - row[3]);
             }
         }
+        for (int ticks = 10; ticks <= 12; ticks++) {
+            CoastRadar r = lostWithSpeed(0, 16, 1);
+            Checks.sweep(r, ticks - 2, 40, 1);
+            Checks.sweep(r, 1, 40, 1);
+            Checks.sweep(r, 1, 40, 1);
+            Checks.equal("step 6: 40 away by x, sixteenths by y: " + (ticks - 11), r.name(0), ticks == 11 ? 0 : 1);
+        }
     }
 
     /** Step 6: "(from where it was lost, with its speed, for all ticks since it was lost)", rounded, above and below 0. */
@@ -238,6 +248,84 @@ final class EdgeMeetingTest {
         Checks.equal("promise 10: none is lost any longer", s.count(6), 0);
     }
 
+    /** Step 6: "from the place of the track": where it is now, not where it was ahead of that. */
+    private static void placeOfTheTrackNow() {
+        for (int more = 0; more <= 1; more++) {
+            for (int axis = 0; axis <= 1; axis++) {
+                CoastRadar r = lost(0, 0);
+                int[] away = {49, 48, 40 + more};
+                for (int i = 0; i < 3; i++) {
+                    Checks.sweep(r, 1, axis == 0 ? away[i] : 0, axis == 1 ? away[i] : 0);
+                }
+                Checks.equal("step 6: it comes from 48 to " + away[2] + ", axis " + axis, r.name(0), more);
+                CoastRadar s = lost(0, 0);
+                int[] back = {39, 40, 40 + more};
+                for (int i = 0; i < 3; i++) {
+                    Checks.sweep(s, 1, axis == 0 ? back[i] : 0, axis == 1 ? back[i] : 0);
+                }
+                Checks.equal("step 6: it goes from 40 to " + back[2] + ", axis " + axis, s.name(0), more);
+            }
+        }
+    }
+
+    /** Three tracks, with three places and speeds, that are lost in the sweeps 7, 8 and 9; each sweep has 16 ticks. */
+    private static CoastRadar lostOneBehindTheOther() {
+        CoastRadar r = Checks.firm(0, 0, 16, -32, 3000, 0, -48, 64, 0, 3000, 80, 96);
+        r.tune(0, 2000, 0, 0);
+        Checks.sweep(r, 16, 3000, 0, 0, 3000);
+        Checks.sweep(r, 16, 0, 3000);
+        Checks.empty(r, 5, 16);
+        Checks.text("set up: lost ones", Checks.eventsOf(r, 7) + " " + Checks.eventsOf(r, 8) + " " + Checks.eventsOf(r, 9), "3:0:-1 3:1:-1 3:2:-1");
+        r.tune(0, 1, 16, 0);
+        return r;
+    }
+
+    /** Where the track of lostOneBehindTheOther() with a name is expected behind a sweep, x. */
+    private static int expectedX(int name, int sweep) {
+        return (name == 1 ? 3000 : 0) + new int[] {1, -3, 5}[name] * (sweep - 2);
+    }
+
+    private static int expectedY(int name, int sweep) {
+        return (name == 2 ? 3000 : 0) + new int[] {-2, 4, 6}[name] * (sweep - 2);
+    }
+
+    /** Step 6: each lost one by its own place, speed and ticks, whichever of them are forgotten ahead of it. */
+    private static void eachLostOneByItself() {
+        int[][] orders = {{0, 1, 2}, {0, 2, 1}, {1, 0, 2}, {1, 2, 0}, {2, 0, 1}, {2, 1, 0}};
+        for (int[] order : orders) {
+            for (int more = 0; more <= 1; more++) {
+                CoastRadar r = lostOneBehindTheOther();
+                String due = "";
+                for (int i = 0; i < 3; i++) {
+                    // It becomes firm in the sweep 12 + 3 * i: the first one is lost too long ago by the sweep 20.
+                    int sweep = 12 + 3 * i;
+                    int x = expectedX(order[i], sweep);
+                    int y = expectedY(order[i], sweep) + 4 + more;
+                    comeBack(r, 16, x, y);
+                    due = "1:" + (3 + i) + ":-1" + (more == 0 ? " 5:" + order[i] + ":" + (3 + i) : "");
+                    String events = Checks.eventsOf(r, sweep);
+                    Checks.isTrue("step 6: the " + order[i] + " as number " + i + ", 4 and " + more + " away: " + events, events.endsWith(due));
+                }
+            }
+        }
+    }
+
+    /** Step 6, the same: those that are lost later are there still, when the first ones have been lost too long ago. */
+    private static void laterOnesStay() {
+        for (int first = 0; first <= 2; first++) {
+            // Behind the sweep 19 + n the names 0 .. n have been lost too long ago.
+            for (int name = 0; name <= 2; name++) {
+                CoastRadar again = lostOneBehindTheOther();
+                Checks.empty(again, 7 + first, 16);
+                Checks.equal("promise 10: lost ones ahead of sweep " + again.count(7), again.count(6), 3);
+                int sweep = 19 + first;
+                comeBack(again, 16, expectedX(name, sweep), expectedY(name, sweep));
+                Checks.equal("step 6: the name " + name + " in sweep " + sweep, again.name(0), name >= first ? name : 3);
+                Checks.equal("promise 10: lost ones then", again.count(6), 2 - first - (name > first ? 1 : 0));
+            }
+        }
+    }
+
     /** Step 6: "(Its own name is not given again.)" */
     private static void ownNameIsNotGivenAgain() {
         CoastRadar r = lost(0, 0);
@@ -312,18 +400,25 @@ final class EdgeMeetingTest {
      * a and b are 0, so that they go just as they are expected, whatever blip they have.
      */
     private static int crossings(int... ways) {
+        return crossingsInSweep(3, ways);
+    }
+
+    /** The same in a later sweep: they go on, in each sweep as far as in the one ahead. */
+    private static int crossingsInSweep(int sweep, int... ways) {
         CoastRadar r = Checks.firm(ways);
         r.tune(0, 2000, 0, 0);
         int[] blips = new int[ways.length / 2];
         for (int i = 0; i < blips.length; i++) {
             blips[i] = ways[i / 2 * 4 + i % 2];
         }
-        Checks.equal("set up: all are joined", Checks.sweep(r, 16, blips), ways.length / 4);
+        for (int i = 3; i <= sweep; i++) {
+            Checks.equal("set up: all are joined", Checks.sweep(r, 16, blips), ways.length / 4);
+        }
         for (int i = 0; i < blips.length; i++) {
             int from = i / 2 * 4 + i % 2;
-            Checks.equal("set up: where it is", r.track(i / 2, i % 2), 16 * ways[from] + ways[from + 2]);
+            Checks.equal("set up: where it is", r.track(i / 2, i % 2), 16 * ways[from] + (sweep - 2) * ways[from + 2]);
         }
-        String events = Checks.eventsOf(r, 3);
+        String events = Checks.eventsOf(r, sweep);
         return events.isEmpty() ? 0 : events.split(" ").length;
     }
 
@@ -363,6 +458,11 @@ final class EdgeMeetingTest {
         cross("aslant, less than a sixteenth beyond", 1, 0, 0, 48, 32, 2, 0, -13, 13);
         cross("aslant, just on it", 1, 0, 0, 48, 32, 2, 0, -14, 12);
         cross("aslant, the first way ends less than a sixteenth short", 0, 0, 0, 16, 16, 2, 0, 1, 31);
+        // The one end is as near to the line of the other way as can be: on neither hand by more than the least fraction.
+        cross("it ends on the one hand of it", 0, 0, 0, 37, 47, -1, 2, 27, -18);
+        cross("it ends on the other hand of it", 0, 0, 0, -34, 33, -1, 2, 15, -31);
+        Checks.equal("step 7: it begins on the one hand of it", crossingsInSweep(4, 0, 0, -19, -13, -3, 1, 13, -40), 0);
+        Checks.equal("step 7: it begins on the other hand of it", crossingsInSweep(4, 0, 0, 15, -19, 2, -2, -6, -1), 0);
         cross("side by side, a place apart", 0, 0, 0, 48, 0, 0, 1, 48, 0);
         cross("side by side, aslant", 0, 0, 0, 48, 32, 0, 1, 48, 32);
         cross("they cross behind each other's ways", 0, 0, 0, 16, 16, 0, 3, 16, -16);

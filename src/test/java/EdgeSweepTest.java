@@ -38,6 +38,7 @@ final class EdgeSweepTest {
         fewerThanTen();
         roomOfThoseThatEnd();
         howATrackBegins();
+        howATrackBeginsBehindAnother();
         namesInOrder();
         Checks.end("EdgeSweepTest");
     }
@@ -144,6 +145,11 @@ final class EdgeSweepTest {
             Checks.equal("step 2: gate 10, expected " + row[0] + " sixteenths on, a blip at " + row[1] + ", " + row[2],
                 Checks.sweep(r, 16, row[1], row[2]), row[3]);
         }
+        for (int aside = -1; aside <= 1; aside++) {
+            CoastRadar r = Checks.moving(0, 0, 0, aside);
+            r.tune(0, 10, 0, 0);
+            Checks.equal("step 2: gate 10, 10 away by x, sixteenths by y: " + aside, Checks.sweep(r, 16, 10, 0), aside == 0 ? 1 : 0);
+        }
     }
 
     /** Step 2: "gate + 40 * misses of the track": of 0 to 4 misses, ahead of this sweep. */
@@ -195,6 +201,10 @@ final class EdgeSweepTest {
         Checks.sweep(t, 1, 0, 0, 10, 0, 20, 0, 30, 0, 40, 0);
         Checks.equal("step 2: a chain, each one by a place", Checks.sweep(t, 1, 0, 0, 10, 0, 20, 0, 30, 0, -10, 0), 5);
         Checks.text("step 2: each one has the next", Checks.joins(t, 5), "1 2 3 4 0");
+        CoastRadar u = Checks.radar(100, 0);
+        Checks.sweep(u, 1, 0, 0, 5000, 0, 150, 0);
+        Checks.equal("step 2: a track between has none", Checks.sweep(u, 1, 60, 0, -80, 0), 2);
+        Checks.text("step 2: the first one leaves the near blip to the last one", Checks.joins(u, 2), "2 0");
     }
 
     /** Step 2: "of all ways that the sum of these squares is least". */
@@ -629,13 +639,29 @@ final class EdgeSweepTest {
             }
             Checks.equal("promise 14: its speed", (long) (65536 * r.speed(0)), 0);
         }
-        CoastRadar s = Checks.radar(1, 0);
-        Checks.sweep(s, 60, 500, 500);
-        Checks.equal("set up: speed", s.track(0, 2), 0);
-        Checks.empty(s, 2, 60);
-        Checks.sweep(s, 60, 7, 7);
-        Checks.equal("step 5: where another one has ended, misses", s.track(1, 6), 0);
-        Checks.equal("step 5: and sweeps", s.track(1, 7), 1);
+    }
+
+    /** Step 5, the same, in the sweep in which another track is lost, or has ended: nothing of that one is left. */
+    private static void howATrackBeginsBehindAnother() {
+        int[] due = {112, -112, 0, 0, 0, 1, 0, 1};
+        CoastRadar r = Checks.firm(500, 500, 24, -24);
+        r.addPlace(true, 0, -100, 9000, 9000);
+        Checks.empty(r, 4, 60);
+        r.tune(0, 1, 16, 0);
+        Checks.sweep(r, 60, 7, -7);
+        CoastRadar s = Checks.moving(500, 500, -24, 24);
+        Checks.empty(s, 1, 60);
+        s.tune(0, 1, 16, 0);
+        Checks.sweep(s, 60, 7, -7);
+        for (int what = 0; what <= 7; what++) {
+            Checks.equal("step 5: what " + what + ", where one was lost", r.track(1, what), due[what]);
+            Checks.equal("step 5: what " + what + ", where one has ended", s.track(1, what), due[what]);
+        }
+        Checks.refuses(r, "promise 13: where it was ahead of that", Checks.BOUNDS, () -> r.path(1, 1, true));
+        Checks.sweep(s, 60, 7, -7);
+        Checks.sweep(s, 60, 7, -7);
+        Checks.equal("step 5: it stays where it began", s.track(1, 0), 112);
+        Checks.equal("step 5: its third join makes it firm", s.track(1, 4), 1);
     }
 
     /** Terms: "Each has a name, from 0 on, given in the order in which they begin; those that were lost keep theirs." */

@@ -29,6 +29,7 @@ final class EdgeTrackTest {
         farthestOfAll();
         limitOfADanger();
         asNearAsTheLimit();
+        asNearAsTheLimitBySixteenths();
         dangersOfFirmOnes();
         pairsOfTen();
         noSuchArea();
@@ -411,6 +412,17 @@ final class EdgeTrackTest {
         Checks.equal("promise 16: 15 sixteenths away then", dangers(1, 0, 0, 256, 3, 5, 1, 0, 0), 1);
         Checks.equal("promise 16: 300 ticks from now", dangers(0, 0, 0, 256, 0, 300, 0, 0, 0), 1);
         Checks.equal("promise 16: 301 ticks from now", dangers(0, 0, 0, 256, 0, 301, 0, 0, 0), 0);
+    }
+
+    /** Promise 16, the same: 16 sixteenths away by x, and one by y, is farther than one place. */
+    private static void asNearAsTheLimitBySixteenths() {
+        CoastRadar r = Checks.firm(0, 0, 0, 1, 1, 0, 0, 0);
+        Checks.equal("promise 16: just a place apart", r.dangers(1), 1);
+        r.tune(0, 2000, 0, 0);
+        Checks.sweep(r, 16, 0, 0, 1, 0);
+        Checks.equal("promise 15: a sixteenth more by y", r.nearest(0, 1), 16 * 16 + 1);
+        Checks.equal("promise 16: farther than the limit", r.dangers(1), 0);
+        Checks.equal("promise 16: nearer than the next one", r.dangers(2), 1);
     }
 
     /** Promise 16: "how many pairs of firm tracks". */
